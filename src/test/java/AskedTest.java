@@ -246,12 +246,29 @@ public final class AskedTest {
     Check.due("20 of six", six().told(1), 4);
     Check.due("20 CARRY of six", six().told(3), 42);
     Check.due("20 above the least of six", six().told(9), 0);
+    x.bar(3, 2);
+    Check.due("20 not VIOLATED: 3 is AWAY in the last ROUND", x.told(2), 1);
+    x.bar(2, 2);
+    Check.due("20 VIOLATED in the last ROUND", x.told(2), 2);
     HomeRounds y = apart();
     // WAYS of 2 are 30, 30, 0, of 3 they are 10, 10, 20: 13.1 and 11.0.
     Check.due("20 MOST WORN", y.told(5), 2);
     y.swap(0, 2);
     // Then 2 has 0, 0, 30, and 3 has 20, 20, 10: 10 and 11.0; 1 has 10, 10, 10: 7.7.
     Check.due("20 MOST WORN then", y.told(5), 3);
+    for (int i = 0; i < 4; i++) {
+      HomeRounds z = new HomeRounds();
+      z.ground(i, 50, 50);
+      int most = 0;
+      for (int k = 1; k < 4; k++) {
+        most = z.wear(k, 2) > z.wear(most, 2) ? k : most;
+      }
+      Check.due("20 MOST WORN with " + i + " far off", z.told(5), most);
+    }
+    HomeRounds two = new HomeRounds();
+    two.ground(2, 0, 9);
+    // WAYS of 0 are 0, 9, 9, of 1 none, of 2 they are 9, 9, 0, of 3 they are 0, 0, 9.
+    Check.due("20 MOST WORN is 0", two.told(5), 0);
   }
 
   private static void rateOf() {
@@ -280,9 +297,15 @@ public final class AskedTest {
     dueBits("22 wear(0, 1)", x.wear(0, 1), 20.0f / 3.0f);
     // From one that isn't its own to another: 3's GROUND to 0's.
     dueBits("22 wear(1, 2)", x.wear(1, 2), 10.0f / 3.0f * 0.75f + 10.0f / 3.0f);
-    x.ground(0, 0, 1);
-    x.ground(3, 0, 0);
-    dueBits("22 a small one", x.wear(3, 0), 1.0f / 3.0f);
+    for (int y = 0; y < 100; y++) {
+      HomeRounds far = new HomeRounds();
+      far.ground(3, 0, y);
+      float once = (float) y / 3.0f;
+      float twice = once * 0.75f + (float) y / 3.0f;
+      dueBits("22 wear(3, 0), " + y + " far", far.wear(3, 0), once);
+      dueBits("22 wear(3, 1), " + y + " far", far.wear(3, 1), twice);
+      dueBits("22 wear(3, 2), " + y + " far", far.wear(3, 2), twice * 0.75f + (float) y / 3.0f);
+    }
     for (int v : new int[] {MIN, -1, 4, MAX}) {
       Check.due("22 wear(" + v + ", 0)", x.wear(v, 0), NO);
       Check.due("22 wear(0, " + v + ")", x.wear(0, v), NO);
@@ -334,7 +357,27 @@ public final class AskedTest {
   }
 
   private static void spread() {
+    boolean isHigh = false;
+    for (int y = 0; y < 60; y++) {
+      HomeRounds x = new HomeRounds();
+      x.ground(0, y % 7, 0);
+      x.ground(3, 0, y);
+      long bits = spreadOf(x);
+      Check.due("25 spread(0), 3 at 0 " + y, x.spread(0), bits >>> 32);
+      Check.due("25 spread(1), 3 at 0 " + y, x.spread(1), bits & 0xFFFFFFFFL);
+      isHigh |= x.spread(1) > MAX;
+    }
+    Check.due("25 there was one with the highest of the lower 32", isHigh);
     HomeRounds x = apart();
+    Check.due("25 spread(0)", x.spread(0), spreadOf(x) >>> 32);
+    for (int v : new int[] {MIN, -1, 2, MAX}) {
+      Check.due("25 spread(" + v + ")", x.spread(v), NO);
+    }
+    Check.due("25 spread(0) where none is worn", new HomeRounds().spread(0), 0);
+    Check.due("25 spread(1) where none is worn", new HomeRounds().spread(1), 0);
+  }
+
+  private static long spreadOf(HomeRounds x) {
     double[] wears = new double[4];
     double mean = 0.0;
     for (int i = 0; i < 4; i++) {
@@ -346,20 +389,6 @@ public final class AskedTest {
     for (int i = 0; i < 4; i++) {
       sum = sum + (wears[i] - mean) * (wears[i] - mean);
     }
-    long bits = Double.doubleToLongBits(sum / 4);
-    Check.due("25 spread(0)", x.spread(0), bits >>> 32);
-    Check.due("25 spread(1)", x.spread(1), bits & 0xFFFFFFFFL);
-    boolean isHigh = false;
-    for (int y = 0; y < 20; y++) {
-      x.ground(0, 0, y);
-      isHigh |= x.spread(1) > Integer.MAX_VALUE;
-      Check.due("25 without a sign", x.spread(1) >= 0 && x.spread(1) >>> 32 == 0);
-    }
-    Check.due("25 the lower 32 with the highest of them", isHigh);
-    for (int v : new int[] {MIN, -1, 2, MAX}) {
-      Check.due("25 spread(" + v + ")", x.spread(v), NO);
-    }
-    Check.due("25 spread(0) where none is worn", new HomeRounds().spread(0), 0);
-    Check.due("25 spread(1) where none is worn", new HomeRounds().spread(1), 0);
+    return Double.doubleToLongBits(sum / 4);
   }
 }

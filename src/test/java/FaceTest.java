@@ -63,6 +63,11 @@ public final class FaceTest {
         Check.due("name of " + method, !publicNames.contains(method.getName()));
       }
     }
+    for (Class<?> inside : HomeRounds.class.getDeclaredClasses()) {
+      for (Method method : inside.getDeclaredMethods()) {
+        Check.due("name of " + method, !publicNames.contains(method.getName()));
+      }
+    }
   }
 
   private static String told(Method method) {

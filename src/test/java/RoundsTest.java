@@ -27,6 +27,7 @@ public final class RoundsTest {
     readRefused();
     step();
     stepFirstOfLeast();
+    stepToTheEnds();
     Check.end("RoundsTest");
   }
 
@@ -287,6 +288,9 @@ public final class RoundsTest {
     dueRead("{", -10);
     dueRead("swap`0 1", -14);
     dueRead("swapz0 1", -10);
+    dueRead("bind 1", -10);
+    dueRead("kinb 1", -10);
+    dueRead("kibd 1", -10);
     dueRead("swap{0 1", -14);
   }
 
@@ -307,6 +311,13 @@ public final class RoundsTest {
     dueRead("swap 0 11", -18);
     dueRead("swap 00 1", -16);
     dueRead("rate 00 1", -16);
+    dueRead("kind 11", -16);
+    dueRead("turn 00 1", -16);
+    dueRead("turn 0 11", -18);
+    dueRead("swop 00 1", -16);
+    dueRead("swop 0 11", -18);
+    dueRead("bar 00 1", -15);
+    dueRead("bar 0 11", -17);
     dueRead("rate 0 99", 1);
     dueRead("rate 0 09", 1);
     dueRead("rate 0 100", -19);
@@ -388,5 +399,29 @@ public final class RoundsTest {
     x.rate(1, 0);
     x.bar(0, 0);
     Check.due("12 what costs no less isn't done", x.step(0, 50), 0);
+  }
+
+  /** What alone helps is the last, and a GAME 0. */
+  private static void stepToTheEnds() {
+    HomeRounds x = new HomeRounds();
+    x.rate(0, 0);
+    x.rate(2, 0);
+    x.bar(2, 2);
+    Check.due("12 step(0, 5) of GAME 0", x.step(0, 5), 1);
+    dueRounds("12 GAME 0", x, new int[][] {{0, 3, 1, 2}, {3, 1, 2, 0}, {3, 2, 0, 1}});
+    x.teams(4);
+    // 0 is HOME in ROUNDS 0 and 2, so only 1 comes in for 2.
+    x.bar(0, 2);
+    Check.due("12 step(1, 5) of the last ROUND", x.step(1, 5), 1);
+    dueRounds("12 the last ROUND", x, new int[][] {{0, 3, 1, 2}, {2, 3, 0, 1}, {3, 1, 2, 0}});
+    x.teams(4);
+    // 2 is HOME in 1 and 2, 3 in 1 alone: only 3 for 2 makes it less.
+    x.bar(2, 2);
+    x.bar(0, 2);
+    x.bar(1, 2);
+    Check.due("12 VIOLATED ahead", x.told(2), 2);
+    Check.due("12 step(2, 5) of the last TEAM", x.step(2, 5), 1);
+    Check.due("12 VIOLATED behind", x.told(2), 1);
+    dueRounds("12 the last TEAM", x, new int[][] {{3, 0, 1, 2}, {0, 1, 2, 3}, {2, 0, 3, 1}});
   }
 }

@@ -105,6 +105,7 @@ public final class TapesTest {
       x.teams(6);
       x.ground(5, 0, 0);
       x.swap(0, 1);
+      x.exchange(0, 3);
       x.bar(0, 0);
       x.rate(1, 0);
       x.kind(time);
@@ -117,7 +118,8 @@ public final class TapesTest {
       Check.due("36 GROUNDS", x.about(5, 4) * 10 + x.about(5, 5), 34);
       Check.due("36 ROUNDS", x.game(1, 1, 0), 0);
       Check.due("36 ROUND 0", x.game(0, 0, 1), 5);
-      Check.due("36 of()", x.of(0, 1, 1), 1);
+      Check.due("36 of(0, 1, 1)", x.of(0, 1, 1), 1);
+      Check.due("36 of(3, 0, 2)", x.of(3, 0, 2), 2);
       Check.due("36 BARS", x.told(6) + x.of(2, 3, 3), 2);
       Check.due("36 RATES", x.rateOf(1), 11);
       Check.due("36 KIND", x.told(7), 2);
@@ -177,6 +179,7 @@ public final class TapesTest {
     Check.due("38 it has no place", x.item(5, 0, 1), -13);
     Check.due("38 tape(5, -1, 99)", x.tape(5, -1, 99), 1);
     Check.due("38 it holds nothing", x.item(5, 0, 1), -11);
+    Check.due("38 nor has it a place", x.peek(5, 0), NO);
     Check.due("38 tape(5, -1, -99)", x.tape(5, -1, -99), 1);
   }
 
