@@ -19,7 +19,7 @@ public final class HomeRounds {
     private static final int MOST_SEEN = 6, MOST_EVENTS = 8, MOST_BOOK = 8;
     private static final int MOST_SEASON = 10, MOST_BREAKS = 4, MOST_STEPS = 50;
     private static final int MOST_SIGNS = 100, MOST_CLAUSES = 12, MOST_ITEMS = 60;
-    private static final int MOST_NUMBER = 99;
+    private static final int MOST_NUMBER = 99, MOST_ROWS = 12;
 
     // The numbers of the EVENTS; a STEP by a MANNER does the first three of them.
     private static final int SWAPPED = 0, TURNED = 1, EXCHANGED = 2, RATED = 3;
@@ -667,16 +667,17 @@ public final class HomeRounds {
             return r >= 0 && r < n - 1;
         }
 
+        // Calls may go eight deep: the longest ways end here, so these three look for themselves.
         boolean hasPlace(int team, int r) {
-            return hasTeam(team) && hasRound(r);
+            return team >= 0 && team < n && r >= 0 && r < n - 1;
         }
 
         boolean hasPair(int i, int j) {
-            return hasTeam(i) && hasTeam(j) && i != j;
+            return i >= 0 && i < n && j >= 0 && j < n && i != j;
         }
 
         boolean hasGame(int r, int k) {
-            return hasRound(r) && k >= 0 && k < n / 2;
+            return r >= 0 && r < n - 1 && k >= 0 && k < n / 2;
         }
 
         int homeOf(int r, int k) {
@@ -699,6 +700,15 @@ public final class HomeRounds {
             return hasPlace(team, r) ? games[cellOf(team, r)] : NONE;
         }
 
+        /** On whose GROUND a TEAM is behind a ROUND; ahead of ROUND 0 on its own. */
+        int hostOf(int team, int r) {
+            if (!hasPlace(team, r)) {
+                return team;
+            }
+            int cell = cellOf(team, r);
+            return sides[cell] == 1 ? team : rivals[cell];
+        }
+
         void put(int r, int k, int home, int away) {
             if (!hasGame(r, k) || !hasPair(home, away)) {
                 return;
@@ -717,7 +727,7 @@ public final class HomeRounds {
 
         /** THE CIRCLE of 4 or 6 TEAMS. */
         void layCircle(int teams) {
-            n = teams;
+            n = teams == 6 ? 6 : 4;
             int last = n - 1;
             for (int r = 0; r < last; r++) {
                 if (r % 2 == 0) {
@@ -1041,21 +1051,19 @@ public final class HomeRounds {
             return Math.abs(xs[i] - xs[j]) + Math.abs(ys[i] - ys[j]);
         }
 
-        /** On whose GROUND a TEAM is behind a ROUND; ahead of ROUND 0 on its own. */
-        int hostOf(int team, int r) {
-            return r < 0 || plan.sideOf(team, r) == 1 ? team : plan.rivalOf(team, r);
-        }
-
         int wayOf(int team, int r) {
-            return far(hostOf(team, r - 1), hostOf(team, r));
+            return far(plan.hostOf(team, r - 1), plan.hostOf(team, r));
         }
 
         int milesOf(int team) {
-            int miles = far(hostOf(team, plan.n - 2), team);
+            int miles = 0;
+            int here = team;
             for (int r = 0; r < plan.n - 1; r++) {
-                miles += wayOf(team, r);
+                int next = plan.hostOf(team, r);
+                miles += far(here, next);
+                here = next;
             }
-            return miles;
+            return miles + far(here, team);
         }
 
         int allMiles() {
@@ -1137,12 +1145,11 @@ public final class HomeRounds {
         static final int WIDTH = 4;
 
         final int limit;
-        final int[] cells;
+        final int[] cells = new int[MOST_ROWS * WIDTH];
         int size;
 
         Rows(int limit) {
-            this.limit = limit;
-            cells = new int[limit * WIDTH];
+            this.limit = Math.min(limit, MOST_ROWS);
         }
 
         void empty() {
@@ -1173,10 +1180,7 @@ public final class HomeRounds {
         }
 
         void become(Rows other) {
-            if (other.limit != limit) {
-                return;
-            }
-            size = other.size;
+            size = Math.min(other.size, limit);
             System.arraycopy(other.cells, 0, cells, 0, cells.length);
         }
     }

@@ -134,13 +134,13 @@ public final class AskedTest {
     // Patterns are 4, 1, 6, 3: none is 4 the other way about but 3.
     Check.due("17 OTHER of 0", x.about(0, 2), 3);
     x.turn(1, 1);
-    // 6, 1, 4, 3: both 0 and 1 are the other way about.
+    // 6, 1, 4, 3.
     Check.due("17 OTHER of 1", x.about(1, 2), 0);
     x.turn(2, 1);
     // 2, 5, 4, 3.
     Check.due("17 OTHER of 2", x.about(2, 2), 3);
     x.turn(0, 1);
-    // 2, 4, 5, 3: OTHER of 2 is 0, of 3 is 1.
+    // 2, 4, 5, 3: 4 is the other way about to 3.
     Check.due("17 OTHER of 3", x.about(3, 2), 1);
     x.turn(1, 0);
     // 2, 6, 5, 1: of 0 it is 2, of 1 it is 3.
