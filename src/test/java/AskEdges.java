@@ -407,16 +407,7 @@ final class AskEdges {
         HomeRounds x = Made.four();
         x.ground(3, far, 0);
         x.ground(1, 7, 2);
-        double mean = 0.0;
-        for (int i = 0; i < 4; i++) {
-          mean = mean + Made.floatOf(x.wear(i, 2));
-        }
-        mean = mean / 4.0;
-        double sum = 0.0;
-        for (int i = 0; i < 4; i++) {
-          sum = sum + (Made.floatOf(x.wear(i, 2)) - mean) * (Made.floatOf(x.wear(i, 2)) - mean);
-        }
-        long bits = Double.doubleToLongBits(sum / 4.0);
+        long bits = Double.doubleToLongBits(Made.spreadByWear(x));
         Check.due("higher, " + far, x.spread(0), bits >>> 32);
         Check.due("lower, " + far, x.spread(1), bits & 0xFFFFFFFFL);
         isWithSign |= (int) bits < 0;

@@ -176,21 +176,8 @@ final class AskedTermsEdges {
     Check.due("by numbers from 0 on", due != back);
     Check.due("in doubles", due != byFloat);
     Check.due("not of the squares", due / 4 != squares / 4 - mean * mean);
-    Check.due("by n, 6", Made.spreadOf(Made.apart(6)) == spreadOfSix());
-  }
-
-  private static double spreadOfSix() {
-    HomeRounds x = Made.apart(6);
-    double mean = 0.0;
-    for (int i = 0; i < 6; i++) {
-      mean = mean + (double) Made.floatOf(x.wear(i, 4));
-    }
-    mean = mean / 6.0;
-    double sum = 0.0;
-    for (int i = 0; i < 6; i++) {
-      sum = sum + (Made.floatOf(x.wear(i, 4)) - mean) * (Made.floatOf(x.wear(i, 4)) - mean);
-    }
-    return sum / 6.0;
+    Check.due("by n, 4", Made.spreadByWear(x) == due / 4);
+    Check.due("by n, 6", Made.spreadOf(Made.apart(6)) == Made.spreadByWear(Made.apart(6)));
   }
 
   private static void seen() {
@@ -512,8 +499,8 @@ final class AskedTermsEdges {
           due = due + v / 10.0f * (float) x.told(4);
           Check.due("COST by RATE " + v, x.cost(), Float.floatToIntBits(due));
           x.ground(2, v, 0);
-          double spread = Made.spreadOf(x);
-          Check.due("SPREAD " + v, x.spread(0), Double.doubleToLongBits(spread) >>> 32);
+          long bits = Double.doubleToLongBits(Made.spreadByWear(x));
+          Check.due("SPREAD " + v, x.spread(0) << 32 | x.spread(1), bits);
         }
       }
       Check.due("0.0f", Made.four().wear(0, 0), Float.floatToIntBits(0.0f));
@@ -557,19 +544,8 @@ final class AskedTermsEdges {
     }
     HomeRounds z = Made.four();
     z.ground(3, 1, 0);
-    double[] wears = new double[4];
-    double mean = 0.0;
-    for (int i = 0; i < 4; i++) {
-      wears[i] = Made.floatOf(z.wear(i, 2));
-      mean = mean + wears[i];
-    }
-    mean = mean / 4.0;
-    double sum = 0.0;
-    for (int i = 0; i < 4; i++) {
-      sum = sum + (wears[i] - mean) * (wears[i] - mean);
-    }
-    Check.due("SPREAD", z.spread(0) << 32 | z.spread(1), Double.doubleToLongBits(sum / 4.0));
-    Check.due("it is small", sum / 4.0 < 0.25 && sum > 0.0);
+    Check.due("SPREAD", Made.spreadOf(z) == Made.spreadByWear(z));
+    Check.due("it is small", Made.spreadOf(z) < 0.25 && Made.spreadOf(z) > 0.0);
   }
 
   /** Where two refusals would do. */

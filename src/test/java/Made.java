@@ -86,7 +86,24 @@ final class Made {
     return Float.intBitsToFloat((int) bits);
   }
 
+  /** SPREAD as it is answered. */
   static double spreadOf(HomeRounds x) {
     return Double.longBitsToDouble(x.spread(0) << 32 | x.spread(1));
+  }
+
+  /** SPREAD as it must be by WEAR. */
+  static double spreadByWear(HomeRounds x) {
+    int n = x.told(0);
+    double mean = 0.0;
+    for (int i = 0; i < n; i++) {
+      mean = mean + (double) floatOf(x.wear(i, n - 2));
+    }
+    mean = mean / (double) n;
+    double sum = 0.0;
+    for (int i = 0; i < n; i++) {
+      double off = (double) floatOf(x.wear(i, n - 2)) - mean;
+      sum = sum + off * off;
+    }
+    return sum / (double) n;
   }
 }
