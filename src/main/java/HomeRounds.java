@@ -133,14 +133,14 @@ public final class HomeRounds {
     }
 
     public int read() {
-        int fault = text.parsed();
+        int fault = text.parse();
         text.length = 0;
         if (fault >= 0) {
             return FAULTY - fault;
         }
         int done = 0;
         for (int row = 0; row < text.clauses.size; row++) {
-            if (clauseDone(row) >= 0) {
+            if (doClause(row) >= 0) {
                 done++;
             }
         }
@@ -153,7 +153,7 @@ public final class HomeRounds {
         }
         int deed = manner == 0 ? TURNED : manner == 1 ? SWAPPED : EXCHANGED;
         int done = 0;
-        while (done < n && now.isBettered(deed)) {
+        while (done < n && now.takeStep(deed)) {
             done++;
         }
         return done;
@@ -538,7 +538,7 @@ public final class HomeRounds {
     }
 
     /** Does a CLAUSE that was read: below 0, if it is refused. */
-    private int clauseDone(int row) {
+    private int doClause(int row) {
         Rows clauses = text.clauses;
         int word = clauses.at(row, 0);
         int a = clauses.at(row, 1);
@@ -996,8 +996,8 @@ public final class HomeRounds {
             return cost;
         }
 
-        /** One STEP: whether there was one. */
-        boolean isBettered(int deed) {
+        /** Does one STEP, if there is one: whether there was. */
+        boolean takeStep(int deed) {
             float least = fullCost();
             int bestA = NONE;
             int bestB = NONE;
@@ -1202,12 +1202,12 @@ public final class HomeRounds {
             return sign >= '0' && sign <= '9';
         }
 
-        /** The FAULT, or NONE. */
-        int parsed() {
+        /** Takes THE TEXT apart into CLAUSES: the FAULT, or NONE. */
+        int parse() {
             clauses.empty();
             place = 0;
             for (int i = 0; i < MOST_CLAUSES; i++) {
-                int fault = clauseFault();
+                int fault = parseClause();
                 if (fault >= 0) {
                     return fault;
                 }
@@ -1222,9 +1222,10 @@ public final class HomeRounds {
             return place;
         }
 
-        int clauseFault() {
+        /** Takes the CLAUSE that begins here, and goes behind it: the FAULT, or NONE. */
+        int parseClause() {
             int start = place;
-            int found = wordBehindHere();
+            int found = takeWord();
             if (found < 0) {
                 return start;
             }
@@ -1238,14 +1239,14 @@ public final class HomeRounds {
                 if (!isDigitHere()) {
                     return place;
                 }
-                numbers[i] = numberBehindHere(widths.charAt(i) == '2');
+                numbers[i] = takeNumber(widths.charAt(i) == '2');
             }
             clauses.add(found, numbers[0], numbers[1], numbers[2]);
             return NONE;
         }
 
-        /** The number of the WORD that stands here, or NONE; goes behind it. */
-        int wordBehindHere() {
+        /** Takes the WORD that begins here, and goes behind it: its number, or NONE. */
+        int takeWord() {
             int start = place;
             for (int i = 0; i < MOST_SIGNS && signHere() >= 'a' && signHere() <= 'z'; i++) {
                 place++;
@@ -1270,8 +1271,8 @@ public final class HomeRounds {
             return true;
         }
 
-        /** The number that begins with the digit here; goes behind it. */
-        int numberBehindHere(boolean mayHaveTwo) {
+        /** Takes the number that begins with the digit here, and goes behind it. */
+        int takeNumber(boolean mayHaveTwo) {
             int number = signHere() - '0';
             place++;
             if (mayHaveTwo && isDigitHere()) {
